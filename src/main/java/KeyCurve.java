@@ -248,6 +248,7 @@ public final class KeyCurve {
 
         void difference(long[] r, long[] a, long[] b) {
             long borrow = Words.differenceInto(r, a, b);
+            // What holds of the carry in a sum holds of the borrow here.
             for (int turn = 0; turn < TURNS && borrow != 0; turn++) {
                 borrow = Words.differenceInto(r, r, gap);
             }
@@ -484,8 +485,9 @@ public final class KeyCurve {
             field.difference(y, y, cube);
         }
 
-        /** Adds the running sum to itself; NONE stays NONE, as z stays 0. */
+        /** Adds the running sum to itself. */
         private void twice() {
+            // The formulas would keep NONE as well: this only spares the leading zeros of a number.
             if (Words.isZero(z)) {
                 return;
             }
