@@ -18,9 +18,7 @@ final class Bench {
     /** An object whose REGISTERS and POINTS are all different, none of them 0 or NONE. */
     static Bench full() {
         Bench bench = new Bench();
-        for (int i = 0; i < 4; i++) {
-            bench.multipleOfBase(i, Numbers.of(101 + i));
-        }
+        bench.placeFour();
         for (int i = 0; i < 4; i++) {
             bench.put(i, Model.FULL.subtract(Numbers.of(1000 + i)));
         }
@@ -70,6 +68,14 @@ final class Bench {
         put(0, x);
         put(1, y);
         Report.due("(" + x + ", " + y + ") is a POINT", use().point(q, 0, 1), true);
+    }
+
+    /** POINTS 0 to 3 are those with the x 1 to 4 and an even y; REGISTERS 0 and 1 are used up. */
+    void placeFour() {
+        for (int q = 0; q < 4; q++) {
+            BigInteger x = Numbers.of(q + 1);
+            place(q, x, Model.evenRoot(Model.squareOfY(x)));
+        }
     }
 
     /** POINT q as "(x, y)" or "NONE"; REGISTER 3 is put back. */

@@ -57,9 +57,7 @@ public final class NamedPlacesTest {
     /** Four POINTS, and in the REGISTERS, turned by side, a POINT's x and y, another x, and the opposite y. */
     private static Bench fourOfEach(int side) {
         Bench bench = new Bench();
-        for (int q = 0; q < 4; q++) {
-            bench.multipleOfBase(q, Numbers.of(q + 1));
-        }
+        bench.placeFour();
         BigInteger[] rows = {
             Model.BASE.x(), Model.BASE.y(), BigInteger.TWO, Model.FIELD.subtract(Model.BASE.y())};
         for (int r = 0; r < 4; r++) {

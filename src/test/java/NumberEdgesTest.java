@@ -27,6 +27,7 @@ public final class NumberEdgesTest {
         subtractBorrowsThroughAllWords();
         multiplyByZeroAndOne();
         multiplyWrapsAtThePrime();
+        multiplyWrapsLate();
         multiplyOfNumbersNotBelowThePrime();
         multiplyOfTheLargestNumbers();
         multiplyCarriesBetweenWords();
@@ -197,6 +198,19 @@ public final class NumberEdgesTest {
             product(prime.subtract(ONE), TWO, order, prime.subtract(TWO));
             product(prime.subtract(ONE), prime.subtract(ONE), order, ONE);
             product(prime.subtract(ONE), Numbers.of(5), order, prime.subtract(Numbers.of(5)));
+        }
+    }
+
+    /** Products whose rest is close to 2^256 less the prime, or to its double: a reduction turns over late there. */
+    private static void multiplyWrapsLate() {
+        for (boolean order : BOTH) {
+            BigInteger prime = prime(order);
+            for (int times = 0; times < 4; times++) {
+                for (int over = -2; over < 3; over++) {
+                    BigInteger rest = gap(order).multiply(Numbers.of(times)).add(Numbers.of(over)).mod(prime);
+                    product(prime.subtract(ONE), prime.subtract(rest), order, rest);
+                }
+            }
         }
     }
 

@@ -49,9 +49,9 @@ public final class PointsTest {
                 onePoint(smallX.add(Model.FIELD), itsY);
             }
         }
-        BigInteger[] smallY = pointWithSmallY();
-        onePoint(smallY[0], smallY[1]);
-        onePoint(smallY[0], smallY[1].add(Model.FIELD));
+        BigInteger itsX = CurveFacts.xOfY(BigInteger.ONE);
+        onePoint(itsX, BigInteger.ONE);
+        onePoint(itsX, Model.FIELD.add(BigInteger.ONE));
         for (BigInteger a : Numbers.edges()) {
             for (BigInteger b : Numbers.edges()) {
                 onePoint(a, b);
@@ -66,19 +66,6 @@ public final class PointsTest {
         pair.put(1, y);
         pair.point(1, 0, 1);
         pair.end();
-    }
-
-    /** A cube root of y^2 - 7, for the least y that has one: as FIELD is 7 modulo 9, by a power. */
-    private static BigInteger[] pointWithSmallY() {
-        BigInteger power = Model.FIELD.add(Numbers.of(2)).divide(Numbers.of(9));
-        for (long y = 1; y < 100; y++) {
-            BigInteger cube = Numbers.of(y * y - 7).mod(Model.FIELD);
-            BigInteger x = cube.modPow(power, Model.FIELD);
-            if (x.modPow(Numbers.of(3), Model.FIELD).equals(cube)) {
-                return new BigInteger[] {x, Numbers.of(y)};
-            }
-        }
-        throw new IllegalStateException("no small y found");
     }
 
     private static void lifts() {
@@ -160,11 +147,8 @@ public final class PointsTest {
 
     /** BASE's x times a third root of 1 is another POINT's x with the same y. */
     private static void sameY(Pair pair) {
-        BigInteger third = Numbers.of(3).modPow(
-            Model.FIELD.subtract(BigInteger.ONE).divide(Numbers.of(3)), Model.FIELD);
-        pair.put(0, third.multiply(Model.BASE.x()).mod(Model.FIELD));
+        pair.put(0, CurveFacts.thirdRootOfOne().multiply(Model.BASE.x()).mod(Model.FIELD));
         pair.put(1, Model.BASE.y());
-        Report.due("3 is no cube", third.equals(BigInteger.ONE), false);
         pair.point(3, 0, 1);
         pair.same(0, 3);
         pair.plus(2, 0, 3);
