@@ -17,6 +17,8 @@ public final class FaceTest {
     public static void main(String[] args) {
         int modifiers = KeyCurve.class.getModifiers();
         Report.due("public and final", Modifier.isPublic(modifiers) && Modifier.isFinal(modifiers), true);
+        Report.due("extends nothing", KeyCurve.class.getSuperclass(), Object.class);
+        Report.due("implements nothing", KeyCurve.class.getInterfaces().length, 0);
         checkMethods();
         checkConstructors();
         checkFields(KeyCurve.class);

@@ -1,11 +1,20 @@
 /** Long runs of scattered calls of the whole face, up to the 512 that an object is used for. */
 public final class ScatteredRunsTest {
     private static final int RUNS = 300;
+    private static final int SHARED_RUNS = 20;
+    // Even if all went to one object, it would stay within its 512 calls.
+    private static final int STEPS_OF_A_SHARED_RUN = 40;
     // What a run's end needs to look at the whole state.
     private static final int CALLS_OF_THE_END = 120;
     private static final int CALLS_OF_ONE_STEP = 9;
 
     public static void main(String[] args) {
+        oneObjectAfterAnother();
+        severalObjectsAtOnce();
+        Report.end();
+    }
+
+    private static void oneObjectAfterAnother() {
         for (int run = 0; run < RUNS; run++) {
             Numbers numbers = new Numbers(1000 + run);
             int last = run % 3 == 0 ? 512 - CALLS_OF_THE_END - CALLS_OF_ONE_STEP : 1 + numbers.below(100);
@@ -15,7 +24,20 @@ public final class ScatteredRunsTest {
             }
             pair.end();
         }
-        Report.end();
+    }
+
+    /** No object sees what is done to another: each keeps to a model of its own. */
+    private static void severalObjectsAtOnce() {
+        for (int run = 0; run < SHARED_RUNS; run++) {
+            Numbers numbers = new Numbers(2000 + run);
+            Pair[] pairs = {new Pair(), new Pair(), new Pair()};
+            for (int i = 0; i < STEPS_OF_A_SHARED_RUN; i++) {
+                step(pairs[numbers.below(pairs.length)], numbers);
+            }
+            for (Pair pair : pairs) {
+                pair.end();
+            }
+        }
     }
 
     private static void step(Pair pair, Numbers numbers) {
